@@ -323,10 +323,7 @@ public final class GrindWorks {
     }
 
     private Unit unitAt(int number) {
-        if (number < 0 || number >= unitCount || number >= MOST_UNITS) {
-            return null;
-        }
-        return units[number];
+        return number >= 0 && number < MOST_UNITS ? units[number] : null;
     }
 
     private static boolean isCell(int cell) {
@@ -431,6 +428,22 @@ public final class GrindWorks {
         int sum = 0;
         for (int size = 0; size < SIZES; size++) {
             sum += amount[STUFFS * size + stuff];
+        }
+        return sum;
+    }
+
+    private static int totalOfRows(int[][] rows) {
+        int sum = 0;
+        for (int i = 0; i < rows.length; i++) {
+            sum += total(rows[i]);
+        }
+        return sum;
+    }
+
+    private static int totalOfStuffInRows(int[][] rows, int stuff) {
+        int sum = 0;
+        for (int i = 0; i < rows.length; i++) {
+            sum += totalOfStuff(rows[i], stuff);
         }
         return sum;
     }
@@ -656,19 +669,11 @@ public final class GrindWorks {
         }
 
         int inSlots() {
-            int sum = 0;
-            for (int i = 0; i < SLOTS; i++) {
-                sum += total(slots[i]);
-            }
-            return sum;
+            return totalOfRows(slots);
         }
 
         int storedOfStuff(int stuff) {
-            int sum = 0;
-            for (int i = 0; i < SLOTS; i++) {
-                sum += totalOfStuff(slots[i], stuff);
-            }
-            return sum;
+            return totalOfStuffInRows(slots, stuff);
         }
     }
 
@@ -709,11 +714,7 @@ public final class GrindWorks {
         }
 
         int inLots() {
-            int sum = 0;
-            for (int i = 0; i < LOTS; i++) {
-                sum += total(lots[i]);
-            }
-            return sum;
+            return totalOfRows(lots);
         }
 
         int lotCount() {
@@ -721,11 +722,7 @@ public final class GrindWorks {
         }
 
         int storedOfStuff(int stuff) {
-            int sum = 0;
-            for (int i = 0; i < LOTS; i++) {
-                sum += totalOfStuff(lots[i], stuff);
-            }
-            return sum;
+            return totalOfStuffInRows(lots, stuff);
         }
     }
 

@@ -28,7 +28,26 @@ public final class FaceTest {
         check.due("constructors", constructors.length, 1);
         check.due("constructor is public", constructors[0].getModifiers(), Modifier.PUBLIC);
         check.due("constructor's parameters", constructors[0].getParameterCount(), 0);
+        check.due("private methods that bear the name of a public one", namesTwice(), 0);
         check.end();
+    }
+
+    /** Rule 1 of LANGUAGE.md, for the classes inside too. */
+    private static int namesTwice() {
+        TreeSet<String> names = new TreeSet<>();
+        for (Method m : GrindWorks.class.getMethods()) {
+            names.add(m.getName());
+        }
+        int count = 0;
+        for (Method m : GrindWorks.class.getDeclaredMethods()) {
+            count += Modifier.isPrivate(m.getModifiers()) && names.contains(m.getName()) ? 1 : 0;
+        }
+        for (Class<?> inside : GrindWorks.class.getDeclaredClasses()) {
+            for (Method m : inside.getDeclaredMethods()) {
+                count += names.contains(m.getName()) ? 1 : 0;
+            }
+        }
+        return count;
     }
 
     private static void same(Check check, String what, TreeSet<String> got, TreeSet<String> want) {

@@ -10,6 +10,7 @@ public final class Promise09RunTest {
         piles(check);
         pileBlocks(check);
         twentyLots(check);
+        allLotsAtOnce(check);
         greatAmounts(check);
         check.end();
     }
@@ -210,6 +211,20 @@ public final class Promise09RunTest {
         }
         check.due("IN is OUT and WITHIN", x.sum(0, 0), x.sum(0, 1) + x.sum(0, 3));
         check.due("a LOT of 2 blocks the ones behind it", x.about(1, 4), 20);
+    }
+
+    private static void allLotsAtOnce(Check check) {
+        GrindWorks x = Works.feeding(Works.PILE);
+        x.set(1, 0, 0);
+        x.rate(0, 0, 2);
+        x.run(20);
+        x.turn(0, 0);
+        x.run(1);
+        check.due("20 LOTS", x.about(1, 4), 20);
+        x.set(1, 0, 40);
+        x.run(1);
+        check.due("all 20 go in one MINUTE", x.about(1, 9), 40);
+        check.due("no LOT stays", x.about(1, 4), 0);
     }
 
     private static void greatAmounts(Check check) {

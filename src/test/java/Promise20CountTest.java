@@ -26,12 +26,27 @@ public final class Promise20CountTest {
             check.due("count(2)", x.count(2), 0);
         }
         row(check, x, 10, 8, 0, 7);
+        firstAndLastFeed(check);
         check.due("count(4)", x.count(4), GrindWorks.NONE);
         check.due("count(-1)", x.count(-1), GrindWorks.NONE);
         for (int strange : Works.STRANGE) {
             check.due("count(" + strange + ")", x.count(strange), GrindWorks.NONE);
         }
         check.end();
+    }
+
+    private static void firstAndLastFeed(Check check) {
+        GrindWorks x = new GrindWorks();
+        x.unit(Works.FEED);
+        for (int i = 1; i < 9; i++) {
+            x.unit(Works.END);
+        }
+        row(check, x, 9, 0, 0, 1);
+        x.unit(Works.FEED);
+        row(check, x, 10, 0, 0, 2);
+        x.turn(0, 0);
+        x.turn(9, 0);
+        row(check, x, 10, 0, 0, 0);
     }
 
     private static void row(Check check, GrindWorks x, int... want) {
