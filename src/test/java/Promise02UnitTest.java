@@ -16,13 +16,11 @@ public final class Promise02UnitTest {
             check.due("about(" + i + ", 0)", x.about(i, 0), kind);
             check.due("count(0)", x.count(0), i + 1);
         }
-        String before = Works.state(x);
         for (int kind = 0; kind < 8; kind++) {
             check.due("unit(" + kind + "), the eleventh", x.unit(kind), GrindWorks.FULL);
         }
         check.due("unit(8), the eleventh", x.unit(8), GrindWorks.NONE);
         check.due("unit(-1), the eleventh", x.unit(-1), GrindWorks.NONE);
-        check.due("refused units change nothing", before.equals(Works.state(x)) ? 1 : 0, 1);
     }
 
     private static void atFirst(Check check) {
