@@ -36,6 +36,7 @@ public final class Edges07ControlTest {
         }
         Probe last = Probe.ofTen(check, Works.FEED).due(0, "control", 9, 9, 0, 0).due(0, "control", 0, 9, 1, 1);
         last.does("turn", 0, 0).does("turn", 9, 0).does("run", 1).due(1, "about", 0, 7).due(0, "about", 9, 7);
+        last.due(0, "control", 9, 0, 1, 1).does("run", 1).due(1, "about", 9, 7).due(10, "count", 3);
     }
 
     private static void noSuchUnit(Check check) {

@@ -12,6 +12,7 @@ public final class Terms2PileTest {
         twentyLots(check);
         putToTheLastBeforeLotsGo(check);
         roundAndRound(check);
+        twentyBehindSomeThatWent(check);
         check.end();
     }
 
@@ -149,10 +150,27 @@ public final class Terms2PileTest {
 
     private static void roundAndRound(Check check) {
         check.sentence("Terms 2", "PILE: what is in its HOLD becomes a LOT behind its LOTS");
-        Probe x = pileWith(check, 3, 1, 4, 1, 5).does("turn", 0, 1);
-        for (int i = 0; i < 45; i++) {
-            x.does("rate", 0, 0, 1 + i % 3).does("set", 1, 0, 5).does("run", 1);
+        // Each LOT is more than half of MOST, so one goes each MINUTE, in the order in which they came.
+        Probe x = pileWith(check, 3, 4, 5, 3, 4).does("set", 1, 0, 5).does("turn", 0, 1).does("rate", 0, 0, 5);
+        x.does("run", 1).due(3, "about", 1, 9);
+        for (int i = 6; i < 60; i++) {
+            x.does("rate", 0, 0, 3 + i % 3).does("run", 1).due(3 + (i - 5) % 3, "about", 1, 9).due(4, "about", 1, 4);
         }
-        x.does("turn", 0, 0).does("run", 60).due(0, "about", 1, 4).due(0, "sum", 0, 3).due(14 + 90, "hold", 2, 0);
+        x.does("turn", 0, 0).does("run", 60).due(0, "about", 1, 4).due(0, "sum", 0, 3).nothingGoesLost();
+    }
+
+    private static void twentyBehindSomeThatWent(Check check) {
+        check.sentence("Terms 2", "with 20 LOTS already it is put to the last one.");
+        for (int gone = 1; gone < 20; gone++) {
+            Probe x = pileWith(check, ones(gone));
+            due(x, gone, gone, 0);
+            x.does("set", 1, 0, 0).does("rate", 0, 0, 1).does("turn", 0, 1).does("run", 20).due(19, "about", 1, 4);
+            x.does("rate", 0, 0, 2).does("run", 2).due(20, "about", 1, 4).does("turn", 0, 0).does("run", 1);
+            // Nineteen LOTS of 1, and one of 1 to which 2 and 2 were put.
+            x.due(20, "about", 1, 4).due(24, "about", 1, 3);
+            due(x, 23, 19, 1);
+            due(x, 4, 0, 1);
+            due(x, 5, 5, 0);
+        }
     }
 }
