@@ -14,8 +14,9 @@ import java.util.stream.Collectors;
 import java.util.stream.Stream;
 
 /**
- * What README.md says is so: its commands run and print what it says, its calls answer what stands behind them,
- * its tables are those of the class, and every call and every refusal of the tables is shown by a call.
+ * What README.md says of commands and answers is so: its commands run (but for .ci/run, which runs this) and print
+ * what it says, its calls answer what stands behind them, its tables name the constants, calls, ports and numbers
+ * of the class, and every refusal of the tables is shown by a call.
  */
 public final class ReadmeTest {
     private static final Path README = Path.of("README.md");
